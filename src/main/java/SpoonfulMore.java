@@ -784,6 +784,7 @@ public final class SpoonfulMore {
         // On days 0 and 1 a tally is met only once, so only those of the later days are remembered.
         private static final int FIRST_REMEMBERED = 2;
         private static final int NOT_YET = -1;
+        private static final int BEYOND_ALL_COSTS = 1 << 29;
 
         private Village village;
         private int sort;
@@ -896,15 +897,24 @@ public final class SpoonfulMore {
             }
         }
 
+        /** Lending fewer things is never dearer, on no later day either: so a set that has another in it is left out. */
         private void listSets(int day) {
-            int found = 0;
+            lentSetCount[day] = 0;
             for (int set = 0; set < SETS; set++) {
-                if ((setsFound >>> set & 1L) != 0L) {
-                    lentSets[day * SETS + found] = set;
-                    found++;
+                if ((setsFound >>> set & 1L) != 0L && !hasListedSetIn(set, day)) {
+                    lentSets[day * SETS + lentSetCount[day]] = set;
+                    lentSetCount[day]++;
                 }
             }
-            lentSetCount[day] = found;
+        }
+
+        private boolean hasListedSetIn(int set, int day) {
+            for (int i = 0; i < lentSetCount[day]; i++) {
+                if ((lentSets[day * SETS + i] & ~set) == 0) {
+                    return true;
+                }
+            }
+            return false;
         }
 
         private void priceAt(int cap) {
@@ -941,7 +951,7 @@ public final class SpoonfulMore {
             if (place >= 0 && remembered[place] != NOT_YET) {
                 return remembered[place];
             }
-            int best = Integer.MAX_VALUE;
+            int best = BEYOND_ALL_COSTS;
             for (int i = 0; i < lentSetCount[day]; i++) {
                 int set = lentSets[day * SETS + i];
                 best = Math.min(best, costOfSet(set, tally) + costFrom(day + 1, tally + tallyOf[set]));

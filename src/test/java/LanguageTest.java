@@ -74,7 +74,7 @@ public final class LanguageTest {
         }
         Matcher library = Pattern.compile("\\b(Math|Integer|Long|System|Arrays)\\.(\\w+)").matcher(bare);
         java.util.Set<String> allowed = java.util.Set.of("Math.max", "Math.min", "Integer.bitCount",
-            "Integer.MAX_VALUE", "System.arraycopy");
+            "System.arraycopy");
         while (library.find()) {
             Check.due("of the library: " + library.group(), allowed.contains(library.group()) ? 1 : 0, 1);
         }

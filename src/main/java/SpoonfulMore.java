@@ -125,7 +125,6 @@ public final class SpoonfulMore {
         }
         acts.next(Act.LENT).thing = thing;
         here.holder[thing] = person;
-        here.daysOut[thing] = 0;
         return Integer.bitCount(bitsOf(here.holder, here.things, person));
     }
 
@@ -874,7 +873,7 @@ public final class SpoonfulMore {
             dayStart[DAYS] = needs;
         }
 
-        /** The thing as a bit if it would be lent for the need, 0 if it is the person's own, NONE if it can't be had. */
+        /** The thing as a bit if it would be lent, 0 if it is the person's own, NONE if it can't be had. */
         private int lentFor(int need, int c) {
             int person = needPerson[need];
             int owner = village.owner[choice[c]];
@@ -897,7 +896,7 @@ public final class SpoonfulMore {
             }
         }
 
-        /** Lending fewer things is never dearer, on no later day either: so a set that has another in it is left out. */
+        /** Lending fewer things is never dearer, then or later: a set that has another in it is left out. */
         private void listSets(int day) {
             lentSetCount[day] = 0;
             for (int set = 0; set < SETS; set++) {

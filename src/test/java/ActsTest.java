@@ -6,6 +6,7 @@ public final class ActsTest {
         holderPays();
         undoing();
         forgetting();
+        forgettingActsOfAllKinds();
         Check.end();
     }
 
@@ -127,5 +128,39 @@ public final class ActsTest {
         Check.due("acts", x.count(5), 1);
         Check.due("undo", x.undo(), 0);
         Check.due("out again", x.thing(0, 6), 4);
+    }
+
+    /** All that an act can change, as one number. */
+    private static long moment(SpoonfulMore x) {
+        long all = x.count(4);
+        for (int person = 0; person < 2; person++) {
+            all = all * 131 + x.person(person, 0);
+        }
+        for (int thing = 0; thing < 2; thing++) {
+            all = ((all * 131 + x.thing(thing, 2)) * 131 + x.thing(thing, 3)) * 131 + x.thing(thing, 6);
+        }
+        return all;
+    }
+
+    private static void forgettingActsOfAllKinds() {
+        SpoonfulMore x = Check.village("V09P99P99K01T000T111");
+        long[] moments = new long[36];
+        for (int act = 0; act < 35; act++) {
+            moments[act] = moment(x);
+            int thing = act / 5 % 2;
+            switch (act % 5) {
+                case 0: x.lend(thing, 1 - thing); break;
+                case 1: x.day(); break;
+                case 2: x.lend(1 - thing, thing); break;
+                case 3: Check.due("back", x.back(thing, 1) > 0 ? 1 : 0, 1); break;
+                default: Check.due("back", x.back(1 - thing, act % 2) >= 0 ? 1 : 0, 1); break;
+            }
+            Check.due("acts", x.count(5), Math.min(16, act + 1));
+        }
+        for (int left = 15; left >= 0; left--) {
+            Check.due("undo", x.undo(), left);
+            Check.due("as ahead of act " + (19 + left), moment(x), moments[19 + left]);
+        }
+        Check.due("forgotten", x.undo(), SpoonfulMore.STATE);
     }
 }

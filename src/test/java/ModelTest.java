@@ -620,6 +620,10 @@ public final class ModelTest {
                 for (int step = 0; step < 60; step++) {
                     acts(x, model, random, run + " step " + step);
                     all(x, model, run + " step " + step);
+                    for (int undo = 0; step == 50 && undo < 20; undo++) {
+                        Check.due(run + " undo " + undo, x.undo(), model.undo());
+                        all(x, model, run + " undo " + undo);
+                    }
                     if (step % 20 == 0) {
                         questions(x, model, random, run + " step " + step);
                     }

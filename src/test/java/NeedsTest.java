@@ -109,9 +109,8 @@ public final class NeedsTest {
 
     private static void caps() {
         SpoonfulMore x = Check.village("V09P00P00K01T001T010N100N101N102N110N111");
-        // sort 0: 2, 3, 4; sort 1: 2, 4
+        // By caps from 1 to 4 (and none more beyond): sort 1 costs 2, then 2 and 4; sort 0 nothing, then 2, 3, 4.
         int[] costs = {0, 2, 2 + 4 + 2, 2 + 4 + 2 + 3, 2 + 4 + 2 + 3 + 4};
-        costs[1] = 2;
         for (int m = 0; m <= 20; m++) {
             int want = SpoonfulMore.NONE;
             for (int cap = 1; cap <= 9; cap++) {

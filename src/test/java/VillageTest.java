@@ -191,7 +191,7 @@ public final class VillageTest {
     }
 
     private static void things() {
-        SpoonfulMore x = Check.village("V14P99P99K01T000T119T024".replace("T119", "T114"));
+        SpoonfulMore x = Check.village("V14P99P99K01T000T114T024");
         long[][] want = {{0, 0, 0, 0, 0, 0, 0}, {1, 1, 4, 1, 20, 0, 0}, {0, 2, 4, 0, 30, 0, 0}};
         for (int thing = 0; thing < 3; thing++) {
             for (int what = 0; what < 7; what++) {

@@ -1,9 +1,14 @@
+import java.math.BigInteger;
 import java.util.ArrayList;
+import java.util.Arrays;
 import java.util.List;
 import java.util.Random;
 import java.util.regex.Pattern;
 
-/** Random runs against a model that tries out everything: all plans, all rows, all ways in which a text could go on. */
+/**
+ * Random runs against a model that tries out everything: all plans, all rows, all ways in which a text could go on.
+ * No object is used for more than 512 calls, as what later ones answer is free.
+ */
 public final class ModelTest {
     private static final int NONE = -9, UNKNOWN = -1, OUTSIDE = -2, STATE = -3, FULL = -4;
     private static final Pattern FORM =
@@ -463,11 +468,17 @@ public final class ModelTest {
         }
     }
 
+    private static String randomPerson(Random random) {
+        return "P" + random.nextInt(10) + random.nextInt(10);
+    }
+
     private static String randomVillage(Random random) {
         StringBuilder text = new StringBuilder("V").append(random.nextInt(4)).append(1 + random.nextInt(9));
         int people = 1 + random.nextInt(5);
-        for (int p = 0; p < people; p++) {
-            text.append('P').append(random.nextInt(10)).append(random.nextInt(10));
+        // Some people may be told behind others' parts; parts that name them too early are left out.
+        int told = random.nextBoolean() ? people : random.nextInt(people + 1);
+        for (int p = 0; p < told; p++) {
+            text.append(randomPerson(random));
         }
         int sorts = 1 + random.nextInt(3);
         int parts = random.nextInt(60);
@@ -475,7 +486,10 @@ public final class ModelTest {
         for (int i = 0; i < parts; i++) {
             String part;
             int kind = random.nextInt(2 + knowing);
-            if (kind == 0) {
+            if (told < people && random.nextInt(6) == 0) {
+                part = randomPerson(random);
+                told++;
+            } else if (kind == 0) {
                 part = "T" + random.nextInt(people) + random.nextInt(sorts)
                     + random.nextInt(text.charAt(2) - '0' + 1);
             } else if (kind == 1) {
@@ -525,6 +539,20 @@ public final class ModelTest {
             for (int what = -1; what <= 7; what++) {
                 Check.due(run + " thing " + t + " " + what, x.thing(t, what), model.thing(t, what));
             }
+        }
+    }
+
+    /** What acts change, in 25 calls at most. */
+    private static void changing(SpoonfulMore x, Model model, String run) {
+        Check.due(run + " day", x.count(4), model.count(4));
+        Check.due(run + " acts", x.count(5), model.count(5));
+        for (int p = 0; p < model.people(); p++) {
+            Check.due(run + " coins of " + p, x.person(p, 0), model.person(p, 0));
+        }
+        for (int t = 0; t < model.owner.length; t++) {
+            Check.due(run + " grade of " + t, x.thing(t, 2), model.thing(t, 2));
+            Check.due(run + " holder of " + t, x.thing(t, 3), model.thing(t, 3));
+            Check.due(run + " days out of " + t, x.thing(t, 6), model.thing(t, 6));
         }
     }
 
@@ -596,45 +624,130 @@ public final class ModelTest {
         model.seed = seed;
     }
 
+    /** A text takes 16 calls at most, so 20 of them leave an object far below its 512th call. */
     private static void texts() {
         Random random = new Random(11);
         SpoonfulMore x = new SpoonfulMore();
         Model model = new Model();
-        for (int i = 0; i < 1500 && Check.wrongSoFar() < 20; i++) {
+        for (int i = 0; i < 2000 && Check.wrongSoFar() < 20; i++) {
+            if (i % 20 == 0) {
+                x = new SpoonfulMore();
+                model = new Model();
+            }
             tell(x, model, spoiled(random, randomVillage(random)), "text " + i);
             Check.due("text " + i + " fault of " + model.text, x.fault(), model.fault());
             Check.due("text " + i + " village", x.village(), model.village());
         }
     }
 
+    private static String newVillage(SpoonfulMore x, Model model, Random random, String told) {
+        tell(x, model, randomVillage(random), told);
+        String run = told + " of " + model.text;
+        Check.due(run + " fault", x.fault(), NONE);
+        Check.due(run + " village", x.village(), model.village());
+        return run;
+    }
+
+    /** Villages one behind the other, acts in each, then whatever can be asked: at most 382 calls. */
     private static void runs() {
-        for (int i = 0; i < 250 && Check.wrongSoFar() < 20; i++) {
+        for (int i = 0; i < 1500 && Check.wrongSoFar() < 20; i++) {
             Random random = new Random(1000 + i);
             SpoonfulMore x = new SpoonfulMore();
             Model model = new Model();
-            for (int part = 0; part < 3; part++) {
-                tell(x, model, randomVillage(random), "run " + i);
-                String run = "run " + i + " of " + model.text;
-                Check.due(run + " fault", x.fault(), NONE);
-                Check.due(run + " village", x.village(), model.village());
-                for (int step = 0; step < 60; step++) {
-                    acts(x, model, random, run + " step " + step);
-                    all(x, model, run + " step " + step);
-                    for (int undo = 0; step == 50 && undo < 20; undo++) {
-                        Check.due(run + " undo " + undo, x.undo(), model.undo());
-                        all(x, model, run + " undo " + undo);
-                    }
-                    if (step % 20 == 0) {
-                        questions(x, model, random, run + " step " + step);
+            String run = "run " + i;
+            int villages = random.nextInt(4);
+            for (int village = 0; village < villages; village++) {
+                run = newVillage(x, model, random, "run " + i);
+                for (int step = random.nextInt(45); step > 0; step--) {
+                    acts(x, model, random, run + ", " + step + " steps ahead of the questions");
+                }
+            }
+            if (random.nextBoolean()) {
+                questions(x, model, random, run);
+                all(x, model, run);
+            } else {
+                all(x, model, run);
+                questions(x, model, random, run);
+            }
+        }
+    }
+
+    /** Acts, each with a look at what it changed; at most 484 calls. */
+    private static void steps() {
+        for (int i = 0; i < 1500 && Check.wrongSoFar() < 20; i++) {
+            Random random = new Random(50000 + i);
+            SpoonfulMore x = new SpoonfulMore();
+            Model model = new Model();
+            String run = newVillage(x, model, random, "steps " + i);
+            for (int step = 0; step < 18; step++) {
+                acts(x, model, random, run + " step " + step);
+                changing(x, model, run + " step " + step);
+            }
+        }
+    }
+
+    /** Many acts, then undone one by one beyond the last one that is known; at most 507 calls. */
+    private static void undone() {
+        for (int i = 0; i < 1500 && Check.wrongSoFar() < 20; i++) {
+            Random random = new Random(90000 + i);
+            SpoonfulMore x = new SpoonfulMore();
+            Model model = new Model();
+            String run = newVillage(x, model, random, "undone " + i);
+            for (int step = random.nextInt(50); step > 0; step--) {
+                acts(x, model, random, run + ", " + step + " steps ahead of undo");
+            }
+            for (int undo = 0; undo < 17; undo++) {
+                Check.due(run + " undo " + undo, x.undo(), model.undo());
+                changing(x, model, run + " undo " + undo);
+            }
+        }
+    }
+
+    /** What n days cost in the mean, times 10 to the n: the first day with a need or without, then the others. */
+    private static long meanOf(int sort, int grade, int n, int x, int cap) {
+        if (n == 0) {
+            return 0;
+        }
+        long without = meanOf(sort, grade, n - 1, x, cap);
+        if (grade == cap) {
+            return 10 * without;
+        }
+        long price = (sort + 1) * (grade + 1) * Math.round(Math.pow(10, n - 1));
+        return x * (price + meanOf(sort, grade + 1, n - 1, x, cap)) + (10 - x) * without;
+    }
+
+    /** All that borrow can be asked; 177 calls an object at most. */
+    private static void means() {
+        for (int cap = 1; cap <= 9; cap++) {
+            for (int ask = 0; ask < 3 * (cap + 1); ask++) {
+                SpoonfulMore y = new SpoonfulMore();
+                y.law(0, cap);
+                for (int n = 1; n <= 8; n++) {
+                    for (int x = 0; x <= 10; x++) {
+                        mean(y, new int[] {ask % 3, ask / 3, n, x}, cap);
                     }
                 }
             }
         }
     }
 
+    private static void mean(SpoonfulMore y, int[] asked, int cap) {
+        BigInteger above = BigInteger.valueOf(meanOf(asked[0], asked[1], asked[2], asked[3], cap));
+        BigInteger below = BigInteger.TEN.pow(asked[2]);
+        BigInteger common = above.gcd(below);
+        String told = "borrow " + Arrays.toString(asked) + " by cap " + cap;
+        Check.due(told + ", above", y.borrow(asked[0], asked[1], asked[2], asked[3], true),
+            above.divide(common).longValueExact());
+        Check.due(told + ", below", y.borrow(asked[0], asked[1], asked[2], asked[3], false),
+            below.divide(common).longValueExact());
+    }
+
     public static void main(String[] args) {
         texts();
         runs();
+        steps();
+        undone();
+        means();
         Check.end();
     }
 }
